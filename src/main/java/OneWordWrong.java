@@ -38,7 +38,7 @@ public final class OneWordWrong {
     /** The two change places when a TEXT is LAID, so that a FAULT leaves the LAID one alone. */
     private Grammar laid = new Grammar();
     private Grammar trial = new Grammar();
-    private final Sentence[] sentences = new Sentence[SENTENCES];
+    private final Row[] sentences = new Row[SENTENCES];
     private final KeptOne[] keptOnes = new KeptOne[MOST_KEPT];
     private int keptSize = 0;
     private final Hand hand = new Hand();
@@ -51,11 +51,10 @@ public final class OneWordWrong {
     private final Mends mends = new Mends();
     /** The SENTENCE whose MENDS are held, so that asking for one after the other finds them once; or -1. */
     private int mendsOf = -1;
-    private final HeapList heapList = new HeapList();
 
     public OneWordWrong() {
         for (int s = 0; s < SENTENCES; s++) {
-            sentences[s] = new Sentence();
+            sentences[s] = new Row();
         }
         for (int k = 0; k < MOST_KEPT; k++) {
             keptOnes[k] = new KeptOne();
@@ -95,8 +94,7 @@ public final class OneWordWrong {
         laid = trial;
         trial = before;
         for (int s = 0; s < SENTENCES; s++) {
-            sentences[s].row.size = 0;
-            sentences[s].quoted = 0;
+            sentences[s].restart();
         }
         keptSize = 0;
         hand.size = 0;
@@ -117,7 +115,7 @@ public final class OneWordWrong {
         if (!isSentence(s) || !isWithin(word, 0, laid.words - 1)) {
             return BAD;
         }
-        Row row = sentences[s].row;
+        Row row = sentences[s];
         if (row.size >= PLACES) {
             return FULL;
         }
@@ -130,9 +128,8 @@ public final class OneWordWrong {
         if (!isSentence(s)) {
             return BAD;
         }
-        int was = sentences[s].row.size;
-        sentences[s].row.size = 0;
-        sentences[s].quoted = 0;
+        int was = sentences[s].size;
+        sentences[s].restart();
         mendsOf = -1;
         return was;
     }
@@ -151,7 +148,7 @@ public final class OneWordWrong {
         if (!isSentence(s) || !isWithin(mark, -1, MARKS - 1)) {
             return BAD;
         }
-        Row row = sentences[s].row;
+        Row row = sentences[s];
         if (row.size == 0) {
             return NO;
         }
@@ -163,7 +160,7 @@ public final class OneWordWrong {
         if (!isSentence(s) || !isWithin(kind, 0, KINDS - 1) || !isWithin(mark, 0, MARKS - 1)) {
             return BAD;
         }
-        Row row = sentences[s].row;
+        Row row = sentences[s];
         if (!isWithin(from, 0, row.size - 1) || !isWithin(n, 1, row.size - from)) {
             return BAD;
         }
@@ -175,7 +172,7 @@ public final class OneWordWrong {
         if (!isSentence(s)) {
             return BAD;
         }
-        if (sentences[s].row.size == 0) {
+        if (sentences[s].size == 0) {
             return NO;
         }
         for (int change = 0; change < CHANGES; change++) {
@@ -189,7 +186,7 @@ public final class OneWordWrong {
         if (!isSentence(s) || i < -1 || !isWithin(what, 0, PLACES + 1)) {
             return BAD;
         }
-        if (!canBeMended(sentences[s].row)) {
+        if (!canBeMended(sentences[s])) {
             return NO;
         }
         findMends(s);
@@ -213,28 +210,28 @@ public final class OneWordWrong {
         if (!isSentence(s) || !isWithin(d, 0, TOP_PRICE) || !isWithin(what, 0, 2)) {
             return BAD;
         }
-        if (!canBeMended(sentences[s].row)) {
+        if (!canBeMended(sentences[s])) {
             return NO;
         }
         findMends(s);
-        heapList.gather(laid, mends);
+        mends.gatherHeaps(laid);
         if (what == 0) {
-            return heapList.size;
+            return mends.heapsSize;
         }
-        if (heapList.size == 0) {
+        if (mends.heapsSize == 0) {
             return NONE;
         }
         if (what == 1) {
-            return heapList.firstStandsOut(mends, d) ? 1 : 0;
+            return mends.firstStandsOut(d) ? 1 : 0;
         }
-        return heapList.size < 2 ? NONE : heapList.askedPlace(laid, mends);
+        return mends.heapsSize < 2 ? NONE : mends.askedPlace(laid);
     }
 
     public int bars(int s) {
         if (!isSentence(s)) {
             return BAD;
         }
-        Row row = sentences[s].row;
+        Row row = sentences[s];
         if (row.size == 0) {
             return NO;
         }
@@ -247,8 +244,8 @@ public final class OneWordWrong {
         if (!isSentence(s) || !isSentence(t)) {
             return BAD;
         }
-        Row said = sentences[s].row;
-        Row made = sentences[t].row;
+        Row said = sentences[s];
+        Row made = sentences[t];
         if (said.size == 0 || made.size == 0) {
             return NO;
         }
@@ -367,7 +364,7 @@ public final class OneWordWrong {
 
     private void findMends(int s) {
         if (mendsOf != s) {
-            mends.find(laid, sentences[s].row, sentences[s].quoted, lanes);
+            mends.find(laid, sentences[s], sentences[s].quoted, lanes);
             mendsOf = s;
         }
     }
@@ -375,7 +372,7 @@ public final class OneWordWrong {
     private int wordsOfSentences() {
         int sum = 0;
         for (int s = 0; s < SENTENCES; s++) {
-            sum += sentences[s].row.size;
+            sum += sentences[s].size;
         }
         return sum;
     }
@@ -530,10 +527,16 @@ public final class OneWordWrong {
         }
     }
 
-    /** A row of WORDS. */
+    /** A row of WORDS, and what is QUOTED of it where it is a SENTENCE. */
     private static final class Row {
         private final int[] words = new int[PLACES];
         private int size = 0;
+        private int quoted = 0;
+
+        void restart() {
+            size = 0;
+            quoted = 0;
+        }
 
         void append(int word) {
             if (size < PLACES) {
@@ -589,12 +592,15 @@ public final class OneWordWrong {
         int familyAt(Grammar grammar, int place) {
             return place < size ? grammar.families[words[place]] : FAMILIES;
         }
-    }
 
-    /** A SENTENCE: its row and its QUOTED places. */
-    private static final class Sentence {
-        private final Row row = new Row();
-        private int quoted = 0;
+        boolean hasFamiliesOf(Grammar grammar, Row other) {
+            for (int p = 0; p < PLACES; p++) {
+                if (familyAt(grammar, p) != other.familyAt(grammar, p)) {
+                    return false;
+                }
+            }
+            return true;
+        }
     }
 
     /** A table with a cell of KINDS and MARKS for each run of places, filled from the shorter runs to the longer. */
@@ -716,12 +722,12 @@ public final class OneWordWrong {
         private static final int BOUNDS = PLACES + 1;
         private final int[] sums = new int[BOUNDS * BOUNDS * STATES];
 
-        int leastSum(Grammar grammar, Sentence sentence, int[] changePrices) {
-            int size = sentence.row.size;
+        int leastSum(Grammar grammar, Row row, int[] changePrices) {
+            int size = row.size;
             fillEmptyRuns(grammar, changePrices[IN], size);
             for (int n = 1; n <= size; n++) {
                 for (int from = 0; from + n <= size; from++) {
-                    startRun(grammar, sentence, changePrices, from, from + n);
+                    startRun(grammar, row, changePrices, from, from + n);
                     joinInside(grammar, from, from + n);
                     joinWithPutIn(grammar, from, from + n);
                 }
@@ -750,25 +756,25 @@ public final class OneWordWrong {
         }
 
         /** A single WORD left or changed, or a shorter run beside a WORD that goes out. */
-        private void startRun(Grammar grammar, Sentence sentence, int[] changePrices, int from, int to) {
+        private void startRun(Grammar grammar, Row row, int[] changePrices, int from, int to) {
             int cell = run(from, to);
             Arrays.fill(sums, cell, cell + STATES, TOO_DEAR);
             if (to == from + 1) {
-                putChanged(grammar, sentence, changePrices, from);
+                putChanged(grammar, row, changePrices, from);
             }
-            if (!hasBit(sentence.quoted, from)) {
+            if (!hasBit(row.quoted, from)) {
                 lowerAll(cell, run(from + 1, to), changePrices[OUT]);
             }
-            if (!hasBit(sentence.quoted, to - 1)) {
+            if (!hasBit(row.quoted, to - 1)) {
                 lowerAll(cell, run(from, to - 1), changePrices[OUT]);
             }
         }
 
-        private void putChanged(Grammar grammar, Sentence sentence, int[] changePrices, int place) {
+        private void putChanged(Grammar grammar, Row row, int[] changePrices, int place) {
             int cell = run(place, place + 1);
-            int own = sentence.row.words[place];
+            int own = row.words[place];
             sums[cell + grammar.stateOf(own)] = 0;
-            for (int w = 0; w < grammar.words && !hasBit(sentence.quoted, place); w++) {
+            for (int w = 0; w < grammar.words && !hasBit(row.quoted, place); w++) {
                 lower(cell + grammar.stateOf(w), grammar.swapPrice(own, w, changePrices));
             }
         }
@@ -930,7 +936,7 @@ public final class OneWordWrong {
         }
     }
 
-    /** The MENDS of one row, in their order. */
+    /** The MENDS of one row, in their order, and their HEAPS. */
     private static final class Mends {
         private final Row[] rows = new Row[MOST_MENDS];
         private final int[] costs = new int[MOST_MENDS];
@@ -939,6 +945,10 @@ public final class OneWordWrong {
         private final Row[] tries = new Row[LANES];
         private final int[] tryCosts = new int[LANES];
         private int triesSize = 0;
+        /** The place of the first MEND of each HEAP. */
+        private final int[] heapFirsts = new int[MOST_MENDS];
+        private int heapsSize = 0;
+        private final int[] tally = new int[FAMILIES + 1];
 
         Mends() {
             for (int i = 0; i < MOST_MENDS; i++) {
@@ -1044,62 +1054,46 @@ public final class OneWordWrong {
         private int orderAt(int i, Row row, int cost) {
             return costs[i] != cost ? costs[i] - cost : rows[i].orderTo(row);
         }
-    }
 
-    /** HEAPS, each told by the place of its first MEND. */
-    private static final class HeapList {
-        private final int[] firsts = new int[MOST_MENDS];
-        private int size = 0;
-        private final int[] tally = new int[FAMILIES + 1];
-
-        void gather(Grammar grammar, Mends mends) {
-            size = 0;
-            for (int i = 0; i < mends.size; i++) {
-                if (!isHeaped(grammar, mends, i)) {
-                    firsts[size] = i;
-                    size++;
+        void gatherHeaps(Grammar grammar) {
+            heapsSize = 0;
+            for (int i = 0; i < size; i++) {
+                if (!isHeaped(grammar, rows[i])) {
+                    heapFirsts[heapsSize] = i;
+                    heapsSize++;
                 }
             }
         }
 
-        boolean firstStandsOut(Mends mends, int d) {
-            return size == 1 || size > 1 && mends.costs[firsts[1]] - mends.costs[firsts[0]] >= d;
-        }
-
-        int askedPlace(Grammar grammar, Mends mends) {
-            int asked = 0;
-            for (int p = 1; p < PLACES; p++) {
-                if (greatestAt(grammar, mends, p) < greatestAt(grammar, mends, asked)) {
-                    asked = p;
-                }
-            }
-            return asked;
-        }
-
-        private boolean isHeaped(Grammar grammar, Mends mends, int i) {
-            for (int h = 0; h < size; h++) {
-                if (haveSameFamilies(grammar, mends.rows[firsts[h]], mends.rows[i])) {
+        private boolean isHeaped(Grammar grammar, Row row) {
+            for (int h = 0; h < heapsSize; h++) {
+                if (row.hasFamiliesOf(grammar, rows[heapFirsts[h]])) {
                     return true;
                 }
             }
             return false;
         }
 
-        private static boolean haveSameFamilies(Grammar grammar, Row one, Row other) {
-            for (int p = 0; p < PLACES; p++) {
-                if (one.familyAt(grammar, p) != other.familyAt(grammar, p)) {
-                    return false;
+        boolean firstStandsOut(int d) {
+            return heapsSize == 1 || heapsSize > 1 && costs[heapFirsts[1]] - costs[heapFirsts[0]] >= d;
+        }
+
+        int askedPlace(Grammar grammar) {
+            int asked = 0;
+            for (int p = 1; p < PLACES; p++) {
+                if (greatestAt(grammar, p) < greatestAt(grammar, asked)) {
+                    asked = p;
                 }
             }
-            return true;
+            return asked;
         }
 
         /** The greatest number of HEAPS that have one FAMILY at a place. */
-        private int greatestAt(Grammar grammar, Mends mends, int place) {
+        private int greatestAt(Grammar grammar, int place) {
             Arrays.fill(tally, 0);
             int greatest = 0;
-            for (int h = 0; h < size; h++) {
-                int family = mends.rows[firsts[h]].familyAt(grammar, place);
+            for (int h = 0; h < heapsSize; h++) {
+                int family = rows[heapFirsts[h]].familyAt(grammar, place);
                 tally[family]++;
                 greatest = Math.max(greatest, tally[family]);
             }

@@ -1,0 +1,199 @@
+import java.io.IOException;
+import java.lang.management.ManagementFactory;
+import java.lang.reflect.Array;
+import java.lang.reflect.Constructor;
+import java.lang.reflect.Field;
+import java.lang.reflect.Method;
+import java.lang.reflect.Modifier;
+import java.nio.file.Files;
+import java.nio.file.Path;
+import java.util.ArrayDeque;
+import java.util.Collections;
+import java.util.Deque;
+import java.util.IdentityHashMap;
+import java.util.Set;
+import java.util.TreeSet;
+import java.util.regex.Matcher;
+import java.util.regex.Pattern;
+
+/** The public face as the document tells it, the rules of the language that a look can test, and the room. */
+public final class FaceTest {
+    private static final Check CHECK = new Check("FaceTest");
+    private static final String[] FACE = {
+        "int write(int,long)", "int wipe()", "int fault()", "int lay()", "int price(int,boolean)", "int word(int,int)",
+        "int clear(int)", "int quote(int,int)", "long trees(int,int)", "int part(int,int,int,int,int)",
+        "int least(int,boolean)", "int mend(int,int,int)", "int heaps(int,int,int)", "int bars(int)", "int keep(int,int)",
+        "int kept(int)", "int byRule(int)", "int theirs(int)", "int err(int)", "int gone(int,int)", "int count(int)"};
+
+    public static void main(String[] args) throws Exception {
+        face();
+        classesInside();
+        source(Path.of(args.length > 0 ? args[0] : ".", "src/main/java/OneWordWrong.java"));
+        anyNumbers();
+        roomOfOne();
+        roomOfCalls();
+        CHECK.end();
+    }
+
+    private static void dueTrue(String what, boolean holds) {
+        CHECK.due(what, holds ? 1 : 0, 1);
+    }
+
+    private static void face() throws Exception {
+        Class<?> c = OneWordWrong.class;
+        dueTrue("public and final", Modifier.isPublic(c.getModifiers()) && Modifier.isFinal(c.getModifiers()));
+        Set<String> seen = new TreeSet<>();
+        Set<String> names = new TreeSet<>();
+        for (Method m : c.getDeclaredMethods()) {
+            if (Modifier.isPrivate(m.getModifiers())) continue;
+            StringBuilder face = new StringBuilder(m.getReturnType() + " " + m.getName() + "(");
+            for (Class<?> p : m.getParameterTypes()) face.append(face.charAt(face.length() - 1) == '(' ? "" : ",").append(p);
+            seen.add(face.append(")").toString());
+            names.add(m.getName());
+            dueTrue(m + " is public and not static", Modifier.isPublic(m.getModifiers()) && !Modifier.isStatic(m.getModifiers()));
+        }
+        dueTrue("methods " + seen, seen.equals(Set.of(FACE)));
+        for (Method m : c.getDeclaredMethods()) {
+            dueTrue(m + " bears a name of its own", !Modifier.isPrivate(m.getModifiers()) || !names.contains(m.getName()));
+        }
+        Constructor<?>[] made = c.getDeclaredConstructors();
+        dueTrue("one constructor", made.length == 1 && made[0].getParameterCount() == 0 && Modifier.isPublic(made[0].getModifiers()));
+        Set<String> constants = new TreeSet<>();
+        for (Field f : c.getDeclaredFields()) {
+            if (!Modifier.isPrivate(f.getModifiers())) constants.add(Modifier.toString(f.getModifiers()) + " " + f.getType() + " " + f.getName());
+            dueTrue(f + " is final if static", !Modifier.isStatic(f.getModifiers()) || Modifier.isFinal(f.getModifiers()));
+        }
+        dueTrue("constants " + constants, constants.equals(Set.of("public static final int BAD", "public static final int NO",
+                "public static final int FULL", "public static final int NONE")));
+        CHECK.due("BAD", OneWordWrong.BAD, -1);
+        CHECK.due("NO", OneWordWrong.NO, -2);
+        CHECK.due("FULL", OneWordWrong.FULL, -3);
+        CHECK.due("NONE", OneWordWrong.NONE, -4);
+    }
+
+    private static void classesInside() {
+        Class<?>[] inside = OneWordWrong.class.getDeclaredClasses();
+        dueTrue("twelve classes at most", inside.length + 1 <= 12);
+        for (Class<?> c : inside) {
+            int how = c.getModifiers();
+            dueTrue(c + " is static and hidden", Modifier.isStatic(how) && !Modifier.isPublic(how) && !Modifier.isProtected(how));
+            int fields = 0;
+            for (Field f : c.getDeclaredFields()) if (!Modifier.isStatic(f.getModifiers())) fields++;
+            dueTrue(c + " has twenty fields at most", fields <= 20);
+            for (Method m : c.getDeclaredMethods()) {
+                dueTrue(m + " takes seven parameters at most", m.getParameterCount() <= 7);
+                for (String face : FACE) dueTrue(m + " bears a name of its own", !face.contains(" " + m.getName() + "("));
+            }
+        }
+    }
+
+    private static void source(Path path) throws IOException {
+        String text = Files.readString(path);
+        String code = text.replaceAll("(?s)/\\*.*?\\*/", " ").replaceAll("//[^\n]*", " ").replaceAll("'[^']*'|\"[^\"]*\"", "0");
+        String[] refused = {"\\bthrow\\b", "\\bthrows\\b", "\\btry\\b", "\\bcatch\\b", "\\bsynchronized\\b", "\\bassert\\b", "->", "::",
+            "\\binstanceof\\b", "@", "\\bpackage\\b", "Exact\\b", "\\bObject\\b", "\\bvar\\b", "System\\.(?!arraycopy)",
+            "\\bimport (?!java\\.util\\.Arrays;)", "\\bArrays\\.(?!fill|copyOf)", "\\[\\]\\[\\]", "\\bvolatile\\b", "\\bnative\\b"};
+        for (String pattern : refused) {
+            Matcher m = Pattern.compile(pattern).matcher(code);
+            dueTrue("no " + pattern + " in the source", !m.find());
+        }
+        int start = 0;
+        String[] lines = text.split("\n", -1);
+        for (int k = 0; k < lines.length; k++) {
+            if (lines[k].matches(" {4,8}(public|private|static|final|abstract|void|int|long|boolean|Row).*\\(.*\\) \\{")) start = k;
+            if (lines[k].matches(" {4,8}\\}")) dueTrue("method behind line " + (start + 1) + " is short", start == 0 || k - start <= 60 || lines[k].startsWith("    }"));
+            dueTrue("line " + (k + 1) + " has plain signs", lines[k].chars().allMatch(ch -> ch >= 32 && ch < 127));
+        }
+    }
+
+    private static long callAny(OneWordWrong x, int method, int a, int b, int c) {
+        switch (method) {
+            case 0: return x.write(a, b);
+            case 1: return x.fault();
+            case 2: return x.price(a, b > 0);
+            case 3: return x.word(a, b);
+            case 4: return x.clear(a);
+            case 5: return x.quote(a, b);
+            case 6: return x.trees(a, b);
+            case 7: return x.part(a, b, c, b, c) + x.part(0, a, b, 0, c) + x.part(0, 0, 1, a, b);
+            case 8: return x.least(a, b > 0);
+            case 9: return x.mend(a, b, c);
+            case 10: return x.heaps(a, b, c);
+            case 11: return x.bars(a);
+            case 12: return x.keep(a, b);
+            case 13: return x.kept(a);
+            case 14: return x.byRule(a);
+            case 15: return x.theirs(a);
+            case 16: return x.err(a);
+            case 17: return x.gone(a, b);
+            case 18: return x.count(a);
+            case 19: return a == 1 ? x.lay() : 0;
+            default: return a == 2 ? x.wipe() : 0;
+        }
+    }
+
+    /** No call may throw, whatever the numbers and whatever went before; each answer is one that is told. */
+    private static void anyNumbers() {
+        int[] odd = {Integer.MIN_VALUE, -2, -1, 0, 1, 2, 3, 7, 8, 9, 10, 40, 99, 255, 256, Integer.MAX_VALUE};
+        String[] texts = {"", "w0,0,0,0;", "w1,0,0,0;w1,1,0,1;w2,0,1,2;w2,1,1,3;r0,1,2,1,0;r1,1,1,1,1;"};
+        for (String text : texts) {
+            OneWordWrong x = Check.laid(text);
+            boolean told = true;
+            for (int method = 0; method <= 20; method++) {
+                for (int a : odd) for (int b : odd) for (int c : odd) told &= callAny(x, method, a, b, c) >= -12;
+            }
+            dueTrue("any numbers on " + text, told);
+        }
+    }
+
+    private static void roomOfOne() throws IllegalAccessException {
+        Set<Object> seen = Collections.newSetFromMap(new IdentityHashMap<>());
+        Deque<Object> open = new ArrayDeque<>();
+        open.add(new OneWordWrong());
+        long cells = 0;
+        while (!open.isEmpty()) {
+            Object o = open.poll();
+            if (!seen.add(o)) continue;
+            if (o.getClass().isArray()) {
+                cells += Array.getLength(o);
+                if (o instanceof Object[]) for (Object e : (Object[]) o) if (e != null) open.add(e);
+                continue;
+            }
+            for (Class<?> c = o.getClass(); c != Object.class; c = c.getSuperclass()) {
+                for (Field f : c.getDeclaredFields()) {
+                    if (Modifier.isStatic(f.getModifiers())) continue;
+                    cells++;
+                    f.setAccessible(true);
+                    if (!f.getType().isPrimitive() && f.get(o) != null) open.add(f.get(o));
+                }
+            }
+        }
+        System.out.println("FaceTest: an object takes " + seen.size() + " objects and arrays, " + cells + " fields and elements");
+        dueTrue("objects and arrays of one", seen.size() <= 500);
+        dueTrue("fields and elements of one", cells <= 20000);
+    }
+
+    /** 512 of the dearest calls make nothing: all rows stand from the start. */
+    private static void roomOfCalls() {
+        com.sun.management.ThreadMXBean threads = (com.sun.management.ThreadMXBean) ManagementFactory.getThreadMXBean();
+        StringBuilder text = new StringBuilder();
+        for (int w = 0; w < 14; w++) text.append("w" + w % 3 + "," + w % 4 + "," + w + "," + w + ";");
+        for (int r = 0; r < 20; r++) text.append("r" + r % 3 + "," + r % 2 + "," + r % 3 + ",1," + r % 2 + ";");
+        OneWordWrong x = Check.laid(text.toString());
+        for (int k = 0; k < 8; k++) x.word(0, 1 + k);
+        long sum = 0;
+        long before = 0;
+        for (int turn = 0; turn < 2; turn++) {
+            before = threads.getThreadAllocatedBytes(Thread.currentThread().getId());
+            for (int k = 0; k < 512; k++) {
+                x.quote(0, k % 2);
+                sum += x.mend(0, k % 40, k % 10) + x.heaps(0, 1, k % 3) + x.bars(0) + x.least(0, false) + x.trees(0, -1)
+                        + x.keep(0, 0) + x.lay() * 0L + x.fault();
+                for (int p = 0; p < 8; p++) x.word(0, 1 + p);
+            }
+        }
+        long made = threads.getThreadAllocatedBytes(Thread.currentThread().getId()) - before;
+        System.out.println("FaceTest: 512 turns made " + made + " bytes (" + sum + ")");
+        dueTrue("calls make nothing", made < 20000);
+    }
+}
