@@ -14,9 +14,11 @@ public final class SentencesTest {
         promise11Part();
         promise12Least();
         promise12LeastByManyChanges();
+        promise12LeastByLongChains();
         promise13Mend();
         promise13Order();
         promise13Forty();
+        promise13ManyTries();
         promise13Quoted();
         promise14Heaps();
         promise14Asked();
@@ -197,6 +199,10 @@ public final class SentencesTest {
         due("SOUND is no way here, FORM is", x.least(3, false), 3);
         x.quote(3, 2);
         due("OTHER of the first", x.least(3, false), 6);
+        Check.say(x, 4, 1, 2);
+        x.quote(4, 2);
+        due("FORM, the first WORD of all", x.least(4, false), 3);
+        due("so the MEND", x.mend(4, 0, 2), 0);
         for (int k = 0; k < 9; k++) {
             x.err(0);
         }
@@ -252,6 +258,26 @@ public final class SentencesTest {
         due("changed once", once.least(1, false), 1);
         Check.say(once, 2, 1, 0);
         due("changed, and one goes", once.least(2, false), 41);
+    }
+
+    private static void promise12LeastByLongChains() {
+        // from the top down: 0 is 1 2, 1 is 3 4, 3 is 5 6; and the same to the left: 0 is 2 7, 7 is 4 8, 8 is 6 9
+        OneWordWrong x = Check.laid("w2,0,0,0;w4,0,1,1;w5,0,2,2;w6,0,3,3;w9,0,4,4;"
+                + "r0,1,2,0,0;r1,3,4,0,0;r3,5,6,0,0;r0,2,7,0,0;r7,4,8,0,0;r8,6,9,0,0;p4,2;p3,60;");
+        Check.say(x, 0, 2);
+        due("three are put in behind", x.least(0, false), 6);
+        Check.say(x, 0, 4);
+        due("three are put in ahead", x.least(0, false), 6);
+        Check.say(x, 0, 1);
+        due("two ahead, one behind", x.least(0, false), 6);
+        Check.say(x, 0, 0, 3);
+        due("two are put in between and behind", x.least(0, false), 4);
+        x.quote(0, 3);
+        due("beside what is QUOTED", x.least(0, false), 4);
+        // 0 is 9 1 alone: all the rest of the chain is put in
+        OneWordWrong y = Check.laid("w2,0,0,0;w4,0,1,1;w5,0,2,2;w6,0,3,3;w9,0,4,4;r0,9,1,0,0;r1,7,2,0,0;r7,3,4,0,0;r3,5,6,0,0;p4,3;");
+        Check.say(y, 0, 4);
+        due("four are put in as one TREE", y.least(0, false), 12);
     }
 
     private static void promise13Mend() {
@@ -363,6 +389,22 @@ public final class SentencesTest {
         Check.say(x, 1, 9);
         due("one becomes two", x.mend(1, -1, 0), 31);
         dueMend(x, 1, 30, 5, 15, 9);
+    }
+
+    private static void promise13ManyTries() {
+        // READ are two or more of KIND 1, then KIND 2, then KIND 1; all WORDS are FORMS of one another
+        OneWordWrong x = Check.laid("w1,0,0,0;".repeat(14) + "w2,0,0,0;r3,1,1,0,0;r3,3,1,0,0;r0,3,4,0,0;r4,2,1,0,0;");
+        Check.say(x, 0, 5, 5, 5, 5, 5, 5);
+        due("one of 84, one of 105", x.mend(0, -1, 0), 2);
+        dueMend(x, 0, 0, 3, 5, 5, 5, 5, 14, 5);
+        dueMend(x, 0, 1, 5, 5, 5, 5, 5, 5, 14, 5);
+        Check.say(x, 1, 5, 5, 5);
+        due("of another", x.mend(1, -1, 0), 1);
+        Check.say(x, 2, 5, 5, 14, 5);
+        due("of the first again", x.mend(0, -1, 0), 2);
+        due("KEPT", x.keep(1, 2), 0);
+        due("of the first, when another is KEPT", x.mend(0, -1, 0), 2);
+        due("and its HEAPS", x.heaps(0, 0, 0), 2);
     }
 
     private static void promise13Quoted() {
