@@ -742,7 +742,7 @@ public final class OneWordWrong {
         /** What WORDS that are put in make by themselves is alike between all places. */
         private void fillEmptyRuns(Grammar grammar, int inPrice, int size) {
             int none = run(0, 0);
-            Arrays.fill(sums, none, none + STATES, TOO_DEAR);
+            forbidAll(none);
             for (int w = 0; w < grammar.words; w++) {
                 sums[none + grammar.stateOf(w)] = inPrice;
             }
@@ -758,7 +758,7 @@ public final class OneWordWrong {
         /** A single WORD left or changed, or a shorter run beside a WORD that goes out. */
         private void startRun(Grammar grammar, Row row, int[] changePrices, int from, int to) {
             int cell = run(from, to);
-            Arrays.fill(sums, cell, cell + STATES, TOO_DEAR);
+            forbidAll(cell);
             if (to == from + 1) {
                 putChanged(grammar, row, changePrices, from);
             }
@@ -776,6 +776,12 @@ public final class OneWordWrong {
             sums[cell + grammar.stateOf(own)] = 0;
             for (int w = 0; w < grammar.words && !hasBit(row.quoted, place); w++) {
                 lower(cell + grammar.stateOf(w), grammar.swapPrice(own, w, changePrices));
+            }
+        }
+
+        private void forbidAll(int cell) {
+            for (int state = 0; state < STATES; state++) {
+                sums[cell + state] = TOO_DEAR;
             }
         }
 
@@ -896,7 +902,8 @@ public final class OneWordWrong {
                 }
                 set = nextSet(set);
                 if (size == LANES || set > agreeing) {
-                    int lane = Long.numberOfTrailingZeros(freeingLanes(grammar, row, lanes));
+                    long freeing = freeingLanes(grammar, row, lanes);
+                    int lane = Long.bitCount((freeing & -freeing) - 1);
                     if (lane < size) {
                         return sets[lane];
                     }
@@ -917,7 +924,7 @@ public final class OneWordWrong {
         private static int nextSet(int set) {
             int lowest = set & -set;
             int carried = set + lowest;
-            return carried | ((set ^ carried) >>> (2 + Integer.numberOfTrailingZeros(lowest)));
+            return carried | ((set ^ carried) >>> (2 + Integer.bitCount(lowest - 1)));
         }
 
         /** The lanes, one for each set, in which the row is READ without that set. */
