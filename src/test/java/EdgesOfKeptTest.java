@@ -174,6 +174,11 @@ public final class EdgesOfKeptTest {
         due("the same once more", x.byRule(2), 2);
         due("a RULE with a 0 bars nothing", x.byRule(3), 0);
         due("RULE 1", x.byRule(1), 0);
+        // 1 is 1 1 twice over, so that its RULE is used at two places
+        OneWordWrong twice = Check.laid("w1,0,0,0;w1,1,0,0;w2,0,0,0;r1,1,1,1,0;r0,1,2,1,0;");
+        Check.say(twice, 0, 0, 1, 1, 2);
+        twice.keep(0, 0);
+        due("a RULE that is used twice is one", twice.byRule(0), 1);
     }
 
     private static void termsTheirs() {

@@ -195,7 +195,17 @@ public final class EdgesOfSentencesTest {
         due("the first", x.quote(0, 1), 1);
         due("of the last SENTENCE", x.quote(7, 255), 0);
         due("each has its own", x.quote(0, 0), 1);
-        due("of an empty one, behind its end", x.quote(7, 0), 255);
+        due("of an empty one, behind its end", x.quote(7, 2), 255);
+        x.word(7, 0);
+        x.word(7, 3);
+        due("WORDS that come behind are QUOTED by their places", x.mend(7, -1, 0), 1);
+        due("the first becomes another", x.mend(7, 0, 2), 1);
+        due("the second is left alone", x.mend(7, 0, 3), 3);
+        due("and it is QUOTED still", x.quote(7, 0), 2);
+        Check.say(x, 6, 0, 2);
+        x.quote(6, 255);
+        due("TREES do not ask what is QUOTED", x.trees(6, -1), 1);
+        due("nor do parts", x.part(6, 0, 2, 0, 0), 1);
     }
 
     private static void quoteBad() {
