@@ -13,10 +13,12 @@ public final class EdgesOfMendsTest {
         edges.run(
                 EdgesOfMendsTest::termsForm, EdgesOfMendsTest::termsSound, EdgesOfMendsTest::termsOther,
                 EdgesOfMendsTest::termsOut, EdgesOfMendsTest::termsIn, EdgesOfMendsTest::termsQuoted,
-                EdgesOfMendsTest::termsQuotedOut, EdgesOfMendsTest::termsAnyNumber, EdgesOfMendsTest::termsChangedOnce,
+                EdgesOfMendsTest::termsQuotedOut, EdgesOfMendsTest::termsAnyNumber, EdgesOfMendsTest::termsLongWays,
+                EdgesOfMendsTest::termsChangedOnce,
                 EdgesOfMendsTest::termsOneIsLeft, EdgesOfMendsTest::termsLeastNothing, EdgesOfMendsTest::termsLeastBy99,
                 EdgesOfMendsTest::leastPrices, EdgesOfMendsTest::leastNone, EdgesOfMendsTest::leastBad,
-                EdgesOfMendsTest::leastNo, EdgesOfMendsTest::termsOneToEight, EdgesOfMendsTest::termsNotRead,
+                EdgesOfMendsTest::leastNo, EdgesOfMendsTest::termsOneToEight, EdgesOfMendsTest::termsEachChange,
+                EdgesOfMendsTest::termsNotRead,
                 EdgesOfMendsTest::termsRowOnce, EdgesOfMendsTest::termsOrder, EdgesOfMendsTest::termsForty,
                 EdgesOfMendsTest::mendHowMany, EdgesOfMendsTest::mendOfTheIth, EdgesOfMendsTest::mendWords,
                 EdgesOfMendsTest::mendNone, EdgesOfMendsTest::mendBad, EdgesOfMendsTest::mendNo, EdgesOfMendsTest::termsHeaps,
@@ -185,6 +187,36 @@ public final class EdgesOfMendsTest {
                 said("w1,0,0,0;w2,0,0,1;w3,0,2,2;w4,0,3,3;r0,2,4,0,0;p0,1;p3,2;p4,4;", 0, 2).least(0, false), 7);
     }
 
+    /**
+     * Stairs of seven KINDS, 3 to 9, by a WORD 1 each; from the top down to the first once more, now with the MARK of WORD 1;
+     * with that the top and WORD 2 are READ. The last step is told first, so each needs to be gone through for itself.
+     */
+    private static String stairs(boolean behind) {
+        StringBuilder text = new StringBuilder("w3,0,0,0;w1,1,1,1;w2,1,2,2;");
+        text.append(behind ? "r0,9,2,1,0;r3,9,1,0,1;" : "r0,2,9,1,1;r3,1,9,0,0;");
+        for (int kind = 8; kind >= 3; kind--) {
+            text.append(behind ? "r" + (kind + 1) + "," + kind + ",1,0,0;" : "r" + (kind + 1) + ",1," + kind + ",0,1;");
+        }
+        return text.toString();
+    }
+
+    private static void termsLongWays() {
+        edges.of(Edges.TERMS, "any number of them");
+        for (boolean behind : new boolean[] {true, false}) {
+            String text = stairs(behind);
+            due("the foot is left, 14 put in", said(text + "p4,1;", 0).least(0, false), 14);
+            due("the end is left, 14 put in", said(text + "p4,1;", 2).least(0, false), 14);
+            due("a step is left, 14 put in", said(text + "p4,1;", 1).least(0, false), 14);
+            int[] ends = behind ? new int[] {0, 2} : new int[] {2, 0};
+            due("both are left, 13 put in", said(text + "p4,1;", ends).least(0, false), 13);
+            due("by 98", said(text + "p4,7;", 0).least(0, false), 98);
+            due("by 98 ahead of the end", said(text + "p4,7;", 2).least(0, false), 98);
+            due("by 112", said(text + "p4,8;", 0).least(0, false), -4);
+            due("for nothing", said(text + "p4,0;", 2).least(0, false), 0);
+            due("one goes out", said(text + "p3,2;p4,1;", ends[1], ends[0]).least(0, false), 16);
+        }
+    }
+
     private static void termsChangedOnce() {
         edges.of(Edges.TERMS, "each WORD changed once at most, what is put in not at all");
         // 0 sounds like 1, 1 is a FORM of 2, that is READ
@@ -310,6 +342,35 @@ public final class EdgesOfMendsTest {
         dueMend(eight, 0, 0, 5, 0, 0, 0, 0, 0, 0, 0);
         due("what one change makes must be READ", said(nine, 0, 0, 0).mend(0, -1, 0), 0);
         due("two changes are no MEND", said("w1,0,0,0;w0,0,0,1;r0,0,0,0,0;p3,0;", 0, 0).mend(0, -1, 0), 0);
+    }
+
+    /** So many WORDS that sound alike, of which one is of KIND 2; READ are rows with that one once. */
+    private static String justOneOf(int words, int one) {
+        StringBuilder text = new StringBuilder("r3,1,1,0,0;r3,3,1,0,0;r0,2,1,0,0;r0,1,2,0,0;r0,3,2,0,0;r0,0,1,0,0;");
+        for (int w = 0; w < words; w++) {
+            text.append(w == one ? "w2,0," : "w1,0,").append(w).append(",0;");
+        }
+        return text.toString();
+    }
+
+    private static void termsEachChange() {
+        edges.of(Edges.TERMS, "SENTENCES that one change makes");
+        for (int words = 2; words <= 16; words++) {
+            for (int one = 0; one < words; one++) {
+                int plain = one == 0 ? 1 : 0;
+                String call = "WORD " + one + " of " + words;
+                OneWordWrong x = Check.laid(justOneOf(words, one));
+                for (int n = 1; n < 8; n++) {
+                    x.word(0, plain);
+                }
+                due(call + " at seven places or put in at eight", x.mend(0, -1, 0), 15);
+                due(call + " at eight places", x.word(0, plain), 8);
+                due(call + " at eight places", x.mend(0, -1, 0), 8);
+                for (int i = 0; i < 8; i++) {
+                    due(call + " MEND " + i, x.mend(0, i, 2 + (one < plain ? i : 7 - i)), one);
+                }
+            }
+        }
     }
 
     private static void termsNotRead() {

@@ -1,6 +1,9 @@
 /** The boundary cases of what is said of TEXTS: Terms, and promises 1 to 6. */
 public final class EdgesOfTextsTest {
     private static final String SMALL = "r0,1,2,1,0;w1,0,0,0;w1,1,0,1;w2,0,1,2;w2,1,1,3;w1,0,2,3;";
+    private static final String WHOLE = "w1,2,13,14;";
+    /** Pieces of the ITEM above, each cut off at another place. */
+    private static final String[] CUT_OFF = {"w", "w1", "w1,", "w1,2", "w1,2,", "w1,2,1", "w1,2,13", "w1,2,13,", "w1,2,13,1", "w1,2,13,14"};
     private static Edges edges;
 
     public static void main(String[] args) {
@@ -68,6 +71,19 @@ public final class EdgesOfTextsTest {
         due("the last ITEM is not whole", y.fault(), 395);
         due("the 400th byte", y.write(1, 59), 400);
         due("now it is", y.fault(), -4);
+        for (String cut : CUT_OFF) {
+            OneWordWrong z = new OneWordWrong();
+            int ahead = 400 - cut.length();
+            due("400 bytes", Check.writeText(z, pricesOf(ahead) + cut), 400);
+            due("the end of a full TEXT cuts " + cut, z.fault(), ahead);
+            due("it can't be LAID", z.lay(), -2);
+        }
+    }
+
+    /** ITEMS of just so many bytes (20 and more). */
+    private static String pricesOf(int bytes) {
+        int six = bytes % 5;
+        return "p0,10;".repeat(six) + "p0,1;".repeat((bytes - 6 * six) / 5);
     }
 
     private static void termsNoBytes() {
@@ -407,6 +423,14 @@ public final class EdgesOfTextsTest {
         due("nothing of it is left", x.fault(), -4);
         due("there is room", x.write(8, 0x70302c313b70312cL), 8);
         due("from the start on", x.fault(), 5);
+        for (String cut : CUT_OFF) {
+            OneWordWrong z = new OneWordWrong();
+            Check.writeText(z, WHOLE);
+            z.wipe();
+            due("a piece as long", Check.writeText(z, cut), cut.length());
+            due("what stood behind " + cut + " does not count", z.fault(), 0);
+            due("it can't be LAID", z.lay(), -2);
+        }
         OneWordWrong y = Check.laid(SMALL);
         Check.say(y, 0, 0, 2);
         y.wipe();

@@ -21,6 +21,7 @@ public final class ModelTest {
         private final OneWordWrong x = new OneWordWrong();
         private final Model m = new Model();
         private int calls = 0;
+        private String lastText = "";
         private int kinds;
         private int marks;
         private int agreeing;
@@ -69,6 +70,11 @@ public final class ModelTest {
             for (int k = 0; k < items; k++) {
                 text.append(item());
             }
+            if (below(4) == 0 && !lastText.isEmpty()) {
+                // what stood behind it before must not count
+                text = new StringBuilder(lastText.substring(0, below(lastText.length())));
+            }
+            lastText = text.toString();
             for (int at = 0; at < text.length(); ) {
                 int n = Math.min(text.length() - at, 1 + below(8));
                 long v = random.nextLong();
@@ -89,7 +95,7 @@ public final class ModelTest {
         void go() {
             writeAndLay();
             while (calls < 480) {
-                if (calls < 250 && below(100) == 0) {
+                if (calls < 250 && below(40) == 0) {
                     due("wipe", x.wipe(), m.wipe());
                     writeAndLay();
                 } else if (below(4) == 0) {
